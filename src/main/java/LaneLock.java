@@ -923,14 +923,14 @@ public final class LaneLock {
 
     /** The fewest fillings, and the least water, if the keeper takes freely. */
     private static final class Choice {
-        private static final int MOST_STATES = (MOST_SHIPS / 2 + 1) * (MOST_SHIPS / 2 + 1);
+        private static final int STRIDE = MOST_SHIPS + 1;
 
         private final Keep keep;
         private final Filling ofOne;
         private final Filling ofBoth;
         private final int[] lanes = new int[LANES];
-        private final int[] fewestFrom = new int[MOST_STATES];
-        private final int[] leastFrom = new int[MOST_STATES];
+        private final int[] fewestFrom = new int[STRIDE * STRIDE];
+        private final int[] leastFrom = new int[STRIDE * STRIDE];
         int fewest;
         int least;
         int ofFirst;
@@ -982,6 +982,7 @@ public final class LaneLock {
         /** Of choices that are as good the latest stays: they come with ever more of lane 0, then of lane 1. */
         private void weigh(int i, int j, int a, int b) {
             int behind = stateOf(i + a, j + b);
+            // a filling that takes nobody is none
             if (a + b == 0 || fewestFrom[behind] == NONE) {
                 return;
             }
@@ -995,8 +996,8 @@ public final class LaneLock {
             }
         }
 
-        private int stateOf(int i, int j) {
-            return Math.min(i * (lanes[1] + 1) + j, MOST_STATES - 1);
+        private static int stateOf(int i, int j) {
+            return i * STRIDE + j;
         }
     }
 
