@@ -2,49 +2,7 @@
  * The boundary cases of the document's terms, sentence by sentence: least and most, empty and full, the tenth ship,
  * the third row, the last place, no wrap-around. What is refused stands in RefusalsTest.
  */
-public final class EdgesTest {
-    private static final int NONE = -1, BAD = -2, STATE = -3, FULL = -4, OUTSIDE = -12, UNLIKE = -13;
-    private static final long NO = Long.MIN_VALUE;
-    private static final int SHIP = 0, BARGE = 1, PAIR = 2, FERRY = 3, PILOT = 4, TANKER = 5;
-    private static final int BYTES = 0, INTS = 1, MIN = Integer.MIN_VALUE, MAX = Integer.MAX_VALUE;
-
-    private static int wrong = 0;
-
-    private static void due(String what, long got, long want) {
-        if (got != want) {
-            wrong++;
-            System.out.println(what + ": answered " + got + ", due is " + want);
-        }
-    }
-
-    private static void dues(String what, int want, int... got) {
-        for (int i = 0; i < got.length; i++) {
-            due(what + " [" + i + "]", got[i], want);
-        }
-    }
-
-    private static LaneLock chamber(int lon, int rows, int fall) {
-        LaneLock x = new LaneLock();
-        x.set(0, lon);
-        x.set(1, rows);
-        x.set(2, fall);
-        return x;
-    }
-
-    /** Ships without rank or load that come at minute 0, of these lengths. */
-    private static void plain(LaneLock x, int lane, int... lengths) {
-        for (int length : lengths) {
-            x.ship(lane, SHIP, length, 0, 0);
-        }
-    }
-
-    private static void row(LaneLock x, int sheet, int sort, int... items) {
-        x.sheet(sheet, sort, items.length);
-        for (int i = 0; i < items.length; i++) {
-            x.put(sheet, i, items[i]);
-        }
-    }
-
+public final class EdgesTest extends Checks {
     /** Who goes in by the next filling: each as number, row, place. */
     private static void goes(String what, LaneLock x, int... want) {
         for (int k = 0; k < want.length / 3; k++) {
@@ -614,6 +572,51 @@ public final class EdgesTest {
         due("no deeds any more", x.count(8), 0);
     }
 
+    /** Two deeds, and a chamber that is not as at first. */
+    private static LaneLock twoDeeds() {
+        LaneLock x = chamber(3, 3, 3);
+        plain(x, 0, 3, 2, 1);
+        plain(x, 1, 1, 4);
+        x.fill();
+        x.leave(4);
+        return x;
+    }
+
+    private static void deedsStay() {
+        LaneLock x = twoDeeds();
+        int[] most = {20, 1, 99, 60, 4};
+        for (int what = 0; what < 5; what++) {
+            x.set(what, most[what]);
+        }
+        x.bar(1, 2, true);
+        x.cap(3, 4);
+        row(x, 0, INTS, 5, 6, 7, 8, 9);
+        x.sheet(1, BYTES, 5);
+        x.film(2, 2);
+        x.copy(0, 0, 0, 1, 1);
+        x.load(0, INTS, 0, 1);
+        x.image();
+        due("neither of what is set, told or kept ends a deed", x.count(8), 2);
+        for (int k = 1; k >= 0; k--) {
+            due("undone", x.undo(), k);
+            for (int what = 0; what < 5; what++) {
+                due("stays, count " + what, x.count(what), most[what]);
+            }
+            dues("stays", 1, x.bar(1, 2, true), x.put(0, 4, 1), x.put(1, 4, 1), x.put(2, 1, 1));
+            due("a cap stays", x.may(3), 4);
+            due("no ship goes", x.count(5), 5);
+        }
+        due("all wait", x.count(6), 5);
+        due("the image stays", x.back(), 5);
+        due("nobody waits in it", x.count(6), 0);
+        LaneLock y = twoDeeds();
+        due("there is no image", y.back(), STATE);
+        due("that ends no deed", y.undo(), 1);
+        due("it waits", y.lane(1, 0), 4);
+        due("the other", y.undo(), 0);
+        due("all wait", y.count(6), 5);
+    }
+
     private static void noDeedsAnyMore() {
         LaneLock x = new LaneLock();
         plain(x, 0, 1, 1, 1);
@@ -797,14 +800,12 @@ public final class EdgesTest {
         tellings();
         rulesTold();
         deeds();
+        deedsStay();
         noDeedsAnyMore();
         images();
         sheets();
         loads();
         films();
-        System.out.println(wrong == 0 ? "all edges hold" : wrong + " edges do not hold");
-        if (wrong != 0) {
-            System.exit(1);
-        }
+        end("all edges");
     }
 }

@@ -1,40 +1,5 @@
 /** Each promise of the document by itself: ordinary inputs, the edges that it names, wrong inputs. */
-public final class PromisesTest {
-    private static final int NONE = -1, BAD = -2, STATE = -3, FULL = -4;
-    private static final int MISSING = -11, OUTSIDE = -12, UNLIKE = -13, BELOW = -14;
-    private static final long NO = Long.MIN_VALUE;
-    private static final int SHIP = 0, BARGE = 1, PAIR = 2, FERRY = 3, PILOT = 4, TANKER = 5;
-    private static final int MIN = Integer.MIN_VALUE, MAX = Integer.MAX_VALUE;
-
-    private static int wrong = 0;
-    private static int promise = 0;
-
-    private static void due(String what, long got, long want) {
-        if (got != want) {
-            wrong++;
-            System.out.println("promise " + promise + ": " + what + ": answered " + got + ", due is " + want);
-        }
-    }
-
-    private static void dues(String what, int want, int... got) {
-        for (int i = 0; i < got.length; i++) {
-            due(what + " [" + i + "]", got[i], want);
-        }
-    }
-
-    /** A plain SHIP that comes at minute 0 without a load. */
-    private static void plain(LaneLock x, int lane, int length) {
-        x.ship(lane, SHIP, length, 0, 0);
-    }
-
-    private static LaneLock chamber(int lon, int rows, int fall) {
-        LaneLock x = new LaneLock();
-        x.set(0, lon);
-        x.set(1, rows);
-        x.set(2, fall);
-        return x;
-    }
-
+public final class PromisesTest extends Checks {
     /** Who goes in by the next filling, one behind the other, as digits of a number behind a 1. */
     private static int goers(LaneLock x) {
         int digits = 1;
@@ -42,13 +7,6 @@ public final class PromisesTest {
             digits = digits * 10 + x.next(k, 0);
         }
         return digits;
-    }
-
-    private static void row(LaneLock x, int sheet, int sort, int... items) {
-        x.sheet(sheet, sort, items.length);
-        for (int i = 0; i < items.length; i++) {
-            x.put(sheet, i, items[i]);
-        }
     }
 
     private static void constants() {
@@ -1111,13 +1069,10 @@ public final class PromisesTest {
             PromisesTest::promise21, PromisesTest::promise22, PromisesTest::promise23, PromisesTest::promise24,
             PromisesTest::promise25, PromisesTest::promise26, PromisesTest::promise27, PromisesTest::promise28,
             PromisesTest::promise29, PromisesTest::promise30};
-        for (Runnable one : all) {
-            promise++;
-            one.run();
+        for (int i = 0; i < all.length; i++) {
+            about = "promise " + (i + 1) + ": ";
+            all[i].run();
         }
-        System.out.println(wrong == 0 ? "all promises are kept" : wrong + " answers are not as due");
-        if (wrong != 0) {
-            System.exit(1);
-        }
+        end("all promises");
     }
 }

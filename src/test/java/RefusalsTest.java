@@ -11,13 +11,7 @@ import java.util.function.ToLongFunction;
  * laid alike, of which one alone was called: both must answer alike to all that can be asked, undone, laid back
  * and loaded. Each object is called less than 512 times.
  */
-public final class RefusalsTest {
-    private static final int NONE = -1, BAD = -2, STATE = -3, FULL = -4;
-    private static final int MISSING = -11, OUTSIDE = -12, UNLIKE = -13, BELOW = -14;
-    private static final long NO = Long.MIN_VALUE;
-    private static final int MIN = Integer.MIN_VALUE, MAX = Integer.MAX_VALUE;
-
-    private static int wrong = 0;
+public final class RefusalsTest extends Checks {
     private static int held = 0;
 
     private final Supplier<LaneLock> laying;
@@ -147,15 +141,8 @@ public final class RefusalsTest {
 
     private void refused(String name, long want, ToLongFunction<LaneLock> call) {
         LaneLock once = laying.get();
-        long got = call.applyAsLong(once);
-        if (got != want) {
-            wrong++;
-            System.out.println(name + ": answered " + got + ", due is " + want);
-        }
-        if (call.applyAsLong(once) != want) {
-            wrong++;
-            System.out.println(name + ": answered otherwise when called again");
-        }
+        due(name, call.applyAsLong(once), want);
+        due(name + ", again", call.applyAsLong(once), want);
         unchanged(name, x -> call.applyAsLong(x));
     }
 
@@ -165,8 +152,7 @@ public final class RefusalsTest {
             LaneLock x = laying.get();
             call.accept(x);
             if (!readings.get(part).apply(x).equals(due.get(part))) {
-                wrong++;
-                System.out.println(name + ": it changed something, by reading " + part);
+                fault(name + ": it changed something, by reading " + part);
             }
         }
     }
@@ -276,6 +262,27 @@ public final class RefusalsTest {
             x.put(1, i, 3 * i);
             x.put(3, i, 900 + i);
         }
+        return x;
+    }
+
+    /** Deeds, but no image. */
+    private static LaneLock unkept() {
+        LaneLock x = new LaneLock();
+        x.set(4, 3);
+        x.ship(0, 0, 9, 1, 2003);
+        x.ship(1, 1, 8, 2, 3004);
+        x.ship(1, 2, 5, 3, 4005);
+        x.ship(0, 3, 6, 4, 5006);
+        x.fill();
+        x.leave(2);
+        return x;
+    }
+
+    /** An image, but no deeds, though one is gone and one left. */
+    private static LaneLock undeeded() {
+        LaneLock x = unkept();
+        x.image();
+        x.back();
         return x;
     }
 
@@ -584,9 +591,8 @@ public final class RefusalsTest {
         ofStuck.thoughts();
         ofStuck.ofNobody();
         new RefusalsTest(LaneLock::new).ofNothing();
-        System.out.println(held + " refusals, " + wrong + " not as due");
-        if (wrong != 0) {
-            System.exit(1);
-        }
+        new RefusalsTest(RefusalsTest::unkept).refused("back to no image", STATE, LaneLock::back);
+        new RefusalsTest(RefusalsTest::undeeded).refused("undo of no deed", STATE, LaneLock::undo);
+        end(held + " refusals and questions");
     }
 }
